@@ -9,6 +9,7 @@ public final class PromisesTest {
         setWrongly();
         candidates();
         candidatesOfAnything();
+        mostCandidates();
         candidate();
         candidateOfBoth();
         needed();
@@ -144,6 +145,15 @@ public final class PromisesTest {
         Check.due("candidates of anything: number", x.candidate(0, 0), 4);
         Check.due("candidates of anything: not needed", x.candidate(0, 3), 0);
         Check.due("candidates of anything: least", x.least(), 0);
+    }
+
+    /** The class holds sets of candidates in 64 bits, which rests on this: 13 each of three functions. */
+    private static void mostCandidates() {
+        int most = 0;
+        for (int one = 0; one <= 65535; one++) {
+            most = Math.max(most, with(4, one, 0).candidates());
+        }
+        Check.due("most candidates of one output", most, 13);
     }
 
     /** Promise 5: the or of input 0 and the opposite of input 2, of three. */
