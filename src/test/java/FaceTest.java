@@ -25,7 +25,9 @@ public final class FaceTest {
     public static void main(String[] args) {
         Class<CoverHouse> type = CoverHouse.class;
         Check.due("class is public and final", type.getModifiers(), Modifier.PUBLIC | Modifier.FINAL);
+        Check.sentence("Terms, end", "The constants: `NONE = -1`: There is none.");
         Check.due("NONE", CoverHouse.NONE, -1);
+        Check.sentence("The public face", "public final class CoverHouse");
         Set<String> due = new TreeSet<>(Arrays.asList(FACE));
         Set<String> face = visibleMembers(type);
         if (!face.equals(due)) {

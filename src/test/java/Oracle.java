@@ -96,6 +96,17 @@ final class Oracle {
         return of > 0;
     }
 
+    int answer(int i, int what) {
+        int product = candidates.get(i);
+        return switch (what) {
+            case 0 -> product;
+            case 1 -> outputsOf(product);
+            case 2 -> partsOf(product);
+            case 3 -> isNeeded(product) ? 1 : 0;
+            default -> onesOf(product);
+        };
+    }
+
     boolean isNeeded(int candidate) {
         for (int o = 0; o < outputs; o++) {
             for (int at = 0; at < 1 << inputs; at++) {

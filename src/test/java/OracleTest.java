@@ -84,12 +84,9 @@ public final class OracleTest {
     private static void compareCandidates(Oracle oracle, String at) {
         Check.due(at + "candidates", house.candidates(), oracle.candidates.size());
         for (int i = 0; i < oracle.candidates.size(); i++) {
-            int product = oracle.candidates.get(i);
-            Check.due(at + "number of " + i, house.candidate(i, 0), product);
-            Check.due(at + "outputs of " + i, house.candidate(i, 1), oracle.outputsOf(product));
-            Check.due(at + "parts of " + i, house.candidate(i, 2), oracle.partsOf(product));
-            Check.due(at + "need of " + i, house.candidate(i, 3), oracle.isNeeded(product) ? 1 : 0);
-            Check.due(at + "ones of " + i, house.candidate(i, 4), oracle.onesOf(product));
+            for (int what = 0; what <= 4; what++) {
+                Check.due(at + "candidate " + i + "," + what, house.candidate(i, what), oracle.answer(i, what));
+            }
         }
     }
 
