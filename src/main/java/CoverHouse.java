@@ -370,9 +370,10 @@ public final class CoverHouse {
         }
 
         boolean makesOne(int output, int inputs) {
-            for (int k = 0; k < pickedCount; k++) {
-                int i = picked[k];
-                if ((table.outputs[i] >> output & 1) != 0 && (table.inputs[i] >> inputs & 1) != 0) {
+            for (int i = 0; i < table.count; i++) {
+                boolean isPicked = (bestSet >> i & 1L) != 0L;
+                boolean isOf = (table.outputs[i] >> output & 1) != 0;
+                if (isPicked && isOf && (table.inputs[i] >> inputs & 1) != 0) {
                     return true;
                 }
             }
@@ -391,7 +392,7 @@ public final class CoverHouse {
             pickedCount = 0;
             pickedParts = 0;
             for (int i = 0; i < table.count; i++) {
-                if ((bestSet >> i & 1L) != 0L) {
+                if ((bestSet >> i & 1L) != 0L && pickedCount < PRODUCTS) {
                     picked[pickedCount] = i;
                     pickedCount++;
                     pickedParts += table.sizes[i];
